@@ -30,7 +30,7 @@ public final class ModelTest {
     private static Model model;
 
     public static void main(String[] args) throws Exception {
-        int runs = args.length > 0 ? Integer.parseInt(args[0]) : 240;
+        int runs = args.length > 0 ? Integer.parseInt(args[0]) : 180;
         long start = args.length > 1 ? Long.parseLong(args[1]) : 0;
         List<String[]> bag = new ArrayList<>();
         for (String call : CALLS) {
