@@ -352,7 +352,10 @@ public final class JetTrees {
 
     public int jetOf(int tree, int track) {
         Tree asked = treeAt(tree);
-        Knot leaf = asked == null ? null : asked.trackAt(track);
+        if (asked == null) {
+            return NONE;
+        }
+        Knot leaf = asked.trackAt(track);
         return leaf == null ? NONE : numberOf(asked.jetWith(leaf.leaves));
     }
 
@@ -1308,6 +1311,9 @@ public final class JetTrees {
             }
             for (int step = 0; step < tracks.length && openCount > 0; step++) {
                 findLeast();
+                if (bestFirst == NONE) {
+                    break;
+                }
                 if (bestSecond == NONE) {
                     goToBeam(step);
                 } else {

@@ -123,6 +123,21 @@ public final class LyingTest {
         Check.due(55, "r 201", x.still(201, -1), -1);
         Check.due(55, "without TRACKS", new JetTrees().still(5, -1), 0);
         Check.due(55, "without TRACKS", new JetTrees().still(5, 0), -1);
+        goneOn();
+    }
+
+    /** TRACKS in a line, heavier and heavier: from the first one the CONE climbs long. TRACK 1 stands far off. */
+    private static void goneOn() {
+        JetTrees twenty = of(new int[][] {{-200, 0, 26}, {200, 180, 37}, {-180, 1, 48}, {-170, 0, 59}, {-160, 1, 70},
+            {-150, 2, 81}, {-140, 1, 92}, {-130, 2, 103}, {-120, 1, 114}, {-110, 1, 125}, {-100, 0, 136}, {-90, 1, 147},
+            {-80, 0, 158}, {-70, 0, 169}, {-60, 0, 180}, {-50, 2, 191}, {-40, 0, 202}, {-30, 0, 213}});
+        Check.due(55, "gone on 20 times: STEADY", twenty.still(43, 0), 261120);
+        Check.due(55, "then that of TRACK 1", twenty.still(43, 1), 2);
+        JetTrees more = of(new int[][] {{-200, 0, 28}, {200, 180, 36}, {-186, 0, 44}, {-179, 1, 52}, {-172, 0, 60},
+            {-165, 1, 68}, {-158, 1, 76}, {-151, 2, 84}, {-144, 1, 92}, {-137, 1, 100}, {-130, 0, 108}, {-123, 2, 116},
+            {-116, 0, 124}, {-109, 2, 132}, {-102, 0, 140}, {-95, 2, 148}, {-88, 2, 156}, {-81, 2, 164}, {-74, 1, 172}});
+        Check.due(55, "it would be 21 times: none", more.still(34, 0), 2);
+        Check.due(55, "from others it is", more.still(34, 1) == 523264 || more.still(34, 2) == 523264, true);
     }
 
     private static void sharedOut() {
@@ -193,6 +208,7 @@ public final class LyingTest {
         Check.due(59, "without TRACKS", new JetTrees().balance(5), 0);
         Check.due(60, "AXIS: 281 has both", x.axis(), 281);
         Check.due(60, "the least of like ones", of(new int[] {0, 100, 5}).axis(), 11);
+        Check.due(60, "ROUND 1", of(new int[] {0, 90, 5}).axis(), 1);
         Check.due(60, "the least of like ones, about 0", of(new int[] {0, 10, 5}).axis(), 0);
         Check.due(60, "the heavier side", of(new int[] {0, 0, 5}, new int[] {0, 180, 6}).axis(), 91);
         Check.due(60, "without TRACKS", new JetTrees().axis(), 0);

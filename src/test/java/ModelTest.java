@@ -10,10 +10,10 @@ public final class ModelTest {
     /** For each call: its name, how often it comes, and what kind each argument is of. */
     private static final String[] CALLS = {
         "track 60 aow", "move 8 tao", "weigh 8 tw", "drop 5 t", "drawn 6 aodn", "tell 2 x", "set 12 sv",
-        "gather 26 T", "keep 10 eTc", "apart 12 TkprT", "hand 5 h", "mix 4 ho", "free 2 T", "undo 6",
+        "gather 26 T", "keep 10 eTC", "apart 12 TkprT", "hand 5 h", "mix 4 ho", "free 2 T", "undo 6",
         "is 4 8", "of 4 t3", "square 4 tt", "nearest 6 t", "tree 5 T8", "knot 16 Tk8", "origin 5 Tt",
         "step 8 Ts3", "up 8 Ts", "down 8 Ts", "leaves 5 Tk", "jet 5 Ti", "jetOf 4 Tt", "left 6 Tsi",
-        "cut 6 Tci", "cutBy 8 TUDi", "together 6 Ttt", "groom 12 Tkz2", "trim 8 Tkrz", "prune 10 Tkzr",
+        "cut 8 TCi", "cutBy 8 TUDi", "together 6 Ttt", "groom 12 Tkz2", "trim 8 Tkrz", "prune 10 Tkzr",
         "split 8 Tki3", "width 5 Tk", "closeness 5 Tk", "kept 5 ei", "within 6 ee", "tau 8 Tkc",
         "matched 8 TkT", "alike 5 TT", "unlike 5 TT", "backToBack 4 T", "fresh 5 T", "pair 6 Tii",
         "nearestPair 5 TM", "count 5 Twb", "common 5 TT", "span 8 i3", "gap 4 2", "tiles 4 l2", "cone 8 aor3",
@@ -124,6 +124,7 @@ public final class ModelTest {
             case 'T': return next(4);
             case 'e': return next(4);
             case 'c': return next(2) == 0 ? 1 + next(9) : 1 + next(40);
+            case 'C': return few();
             case 'k': return next(3) == 0 ? next(2 * there) : there - 1 + next(there);
             case 'p': return next(3) - 1;
             case 'r': return radius();
@@ -189,6 +190,12 @@ public final class ModelTest {
             return (int) Math.min(Integer.MAX_VALUE, up + next(3) - 1);
         }
         return pick(0, 1, 2, Integer.MAX_VALUE, next(100000), next(200));
+    }
+
+    /** As many as a TREE can be cut to, or one too few. */
+    private static int few() {
+        Model.MTree tree = model.treeAt(next(4));
+        return tree == null ? 1 + next(40) : tree.jets.size() - 1 + next(tree.tracks - tree.jets.size() + 2);
     }
 
     private static int down() {

@@ -163,16 +163,22 @@ public final class TreesTest {
         Check.due(30, "cut(1, 2, -1)", x.cut(1, 2, -1), -1);
         // A JET that goes ahead of the last two JOINED counts, and is one of those.
         x.move(3, 200, 100);
-        x.move(4, 200, 112);
+        x.move(4, 200, 108);
         x.set(0, 9);
         x.set(1, -1);
         x.weigh(0, 9999);
         x.weigh(3, 9);
         x.weigh(4, 10);
         x.gather(0);
-        Check.due(30, "the heaviest goes to the beam ahead of others", x.step(0, 2, 1), -1);
-        row(30, "cut 3 with it", cut(x, 3), 3, 4, 6);
-        row(30, "left 3 without it", left(x, 3), 3, 4);
+        Check.due(30, "the heaviest goes to the beam", x.step(0, 2, 1), -1);
+        Check.due(30, "ahead of two that are JOINED", x.step(0, 3, 2), 7);
+        row(30, "cut 3", cut(x, 3), 3, 4, 6);
+        row(29, "left 3 without it", left(x, 3), 3, 4);
+        row(30, "cut 2 with it", cut(x, 2), 6, 7);
+        row(29, "left 4 without it", left(x, 4), 7);
+        Check.due(10, "KEPT with it", x.keep(2, 0, 2), 2);
+        Check.due(39, "KEPT with it", x.kept(2, 0), 7);
+        row(31, "cutBy 64 by 100 with it", cutBy(x, 64, 100), 6, 7);
     }
 
     private static void marks() {

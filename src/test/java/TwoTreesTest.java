@@ -3,6 +3,7 @@ public final class TwoTreesTest {
     public static void main(String[] args) {
         beside();
         matchedByWeight();
+        matchedByLittle();
         fresh();
         pairs();
         counted();
@@ -84,6 +85,13 @@ public final class TwoTreesTest {
         x.set(0, 1);
         x.gather(1);
         Check.due(42, "of like WEIGHT the one ahead", x.matched(0, 2, 1), 1);
+    }
+
+    private static void matchedByLittle() {
+        JetTrees x = new JetTrees();
+        x.track(0, 0, 1);
+        x.gather(0);
+        Check.due(42, "WEIGHT 1 is shared", x.matched(0, 0, 0), 0);
     }
 
     private static void fresh() {
