@@ -423,9 +423,10 @@ public final class JetTrees {
 
     public int split(int tree, int knot, int i, int what) {
         Knot whole = knotAt(tree, knot);
-        if (whole == null || what < 0 || what > 2) {
+        if (whole == null) {
             return NONE;
         }
+        // What is asked belongs to the i-th alone: how many there are is answered beside any.
         if (i == NONE) {
             return Branches.splitsOf(whole);
         }
@@ -436,7 +437,8 @@ public final class JetTrees {
         switch (what) {
             case 0: return asked.body.number;
             case 1: return Branches.lightShare(asked);
-            default: return asked.squareOfParts();
+            case 2: return asked.squareOfParts();
+            default: return NONE;
         }
     }
 

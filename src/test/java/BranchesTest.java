@@ -79,7 +79,13 @@ public final class BranchesTest {
 
     private static void splits() {
         JetTrees x = TreesTest.five();
-        Check.due(36, "how many", x.split(0, 6, -1, 0), 2);
+        int[] whats = {0, 1, 2, 3, 4, -1, -2, 1000, Integer.MAX_VALUE, Integer.MIN_VALUE};
+        for (int what : whats) {
+            Check.due(36, "how many, what " + what, x.split(0, 6, -1, what), 2);
+            Check.due(36, "how many of a TRACK, what " + what, x.split(0, 0, -1, what), 0);
+            Check.due(36, "how many of no such KNOT, what " + what, x.split(0, 8, -1, what), -1);
+            Check.due(36, "how many of no such TREE, what " + what, x.split(1, 0, -1, what), -1);
+        }
         int[][] splits = {{6, 250, 17}, {5, 333, 9}};
         for (int i = 0; i < 2; i++) {
             for (int what = 0; what < 3; what++) {
@@ -90,10 +96,10 @@ public final class BranchesTest {
         Check.due(36, "i -2", x.split(0, 6, -2, 0), -1);
         Check.due(36, "what 3", x.split(0, 6, 0, 3), -1);
         Check.due(36, "what -1", x.split(0, 6, 0, -1), -1);
-        Check.due(36, "a TRACK has none", x.split(0, 0, -1, 0), 0);
+        Check.due(36, "what 3 of the last", x.split(0, 6, 1, 3), -1);
         Check.due(36, "a TRACK", x.split(0, 0, 0, 0), -1);
-        Check.due(36, "no such KNOT", x.split(0, 8, -1, 0), -1);
-        Check.due(36, "no such TREE", x.split(1, 0, -1, 0), -1);
+        Check.due(36, "no such KNOT", x.split(0, 8, 0, 0), -1);
+        Check.due(36, "no such TREE", x.split(1, 0, 0, 0), -1);
         Check.due(36, "of 7: 30 of 70, downward", x.split(0, 7, 0, 1), 428);
     }
 

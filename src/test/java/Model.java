@@ -689,7 +689,7 @@ final class Model {
 
     public int split(int tree, int knot, int i, int what) {
         MKnot k = knotAt(tree, knot);
-        if (k == null || !in(0, what, 2)) {
+        if (k == null) {
             return -1;
         }
         MTree t = w.trees[tree];
@@ -700,7 +700,7 @@ final class Model {
         if (i == -1) {
             return chain.size();
         }
-        if (!in(0, i, chain.size() - 1)) {
+        if (!in(0, i, chain.size() - 1) || !in(0, what, 2)) {
             return -1;
         }
         MKnot at = t.knots.get(chain.get(i));

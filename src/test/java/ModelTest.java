@@ -14,7 +14,7 @@ public final class ModelTest {
         "is 4 8", "of 4 t3", "square 4 tt", "nearest 6 t", "tree 5 T8", "knot 16 Tk8", "origin 5 Tt",
         "step 8 Ts3", "up 8 Ts", "down 8 Ts", "leaves 5 Tk", "jet 5 Ti", "jetOf 4 Tt", "left 6 Tsi",
         "cut 8 TCi", "cutBy 8 TUDi", "together 6 Ttt", "groom 12 Tkz2", "trim 8 Tkrz", "prune 10 Tkzr",
-        "split 8 Tki3", "width 5 Tk", "closeness 5 Tk", "kept 5 ei", "within 6 ee", "tau 8 Tkc",
+        "split 8 Tki4", "width 5 Tk", "closeness 5 Tk", "kept 5 ei", "within 6 ee", "tau 8 Tkc",
         "matched 8 TkT", "alike 5 TT", "unlike 5 TT", "backToBack 4 T", "fresh 5 T", "pair 6 Tii",
         "nearestPair 5 TM", "count 5 Twb", "common 5 TT", "span 8 i3", "gap 4 2", "tiles 4 l2", "cone 8 aor3",
         "still 8 ri", "patch 12 rzi", "pedestal 4 l", "clean 5 Tkl", "balance 4 o", "axis 1", "image 2", "back 1",
