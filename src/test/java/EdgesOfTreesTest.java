@@ -708,6 +708,26 @@ public final class EdgesOfTreesTest {
         row("a little more", i -> x.cutBy(0, 25, down - 1, i), 2);
     }
 
+    /** Promise 31, II: "whose MEASURE is above it": 25 by 4, beside marks that are less, like it and more by ever so little. */
+    static void p31_besideAFraction() {
+        JetTrees x = Edge.treeOf(-1, 40, 0, Edge.t(0, 0, 2), Edge.t(3, 4, 1));
+        Edge.due("up", x.up(0, 0), 25);
+        Edge.due("down", x.down(0, 0), 4);
+        int[][] less = {{6, 1}, {5, 1}, {31, 5}, {37, 6}, {81, 13}, {499999, 80000}, {249, 40}, {2147483643, 343597383}};
+        for (int[] mark : less) {
+            row(mark[0] + " by " + mark[1], i -> x.cutBy(0, mark[0], mark[1], i), 0, 1);
+        }
+        int[][] notLess = {{25, 4}, {50, 8}, {7, 1}, {13, 2}, {19, 3}, {44, 7}, {500001, 80000}, {251, 40},
+            {2147483644, 343597383}};
+        for (int[] mark : notLess) {
+            row(mark[0] + " by " + mark[1], i -> x.cutBy(0, mark[0], mark[1], i), 2);
+        }
+        // A whole MEASURE beside marks that aren't.
+        JetTrees y = Edge.five();
+        row("17 by 2", i -> y.cutBy(0, 17, 2, i), 0, 1, 2, 3, 4);
+        row("19 by 2", i -> y.cutBy(0, 19, 2, i), 2, 3, 4, 5);
+    }
+
     /** Promise 31: "up 0": MEASURES that are 0 aren't above it. */
     static void p31_nothing() {
         JetTrees x = Edge.treeOf(-1, 40, 0, Edge.t(5, 5, 7), Edge.t(5, 5, 8), Edge.t(50, 5, 8));
