@@ -128,30 +128,29 @@ public final class BranchesTest {
         JetTrees big = new JetTrees();
         big.set(0, 200);
         big.set(1, 0);
-        for (int i = 0; i < 20; i++) {
-            big.track(-200 + (i % 3), 0, 9999 - i);
-            big.track(-5, 180, 9999 - 2 * i);
-            if (i % 5 == 4) {
-                big.track(100, 90, 9001);
-                big.drop(big.is(3) - 1);
-            }
+        int[][] tracks = new int[40][];
+        for (int i = 0; i < 40; i++) {
+            tracks[i] = i % 2 == 0 ? new int[] {-200 + i % 3, 0, 9999 - i} : new int[] {-5, 180, 9999 - 2 * i};
+            big.track(tracks[i][0], tracks[i][1], tracks[i][2]);
         }
         Check.due(38, "JETS", big.gather(0) >= 1, true);
         for (int k = 40; k < big.tree(0, 0); k++) {
-            Check.bits(38, "closeness(0, " + k + ")", big.closeness(0, k), closeness(big, k));
+            double due = closeness(tracks, big.leaves(0, k), big.knot(0, k, 2));
+            Check.bits(38, "closeness(0, " + k + ")", big.closeness(0, k), due);
         }
     }
 
-    private static double closeness(JetTrees x, int knot) {
+    private static double closeness(int[][] tracks, long leaves, long weight) {
         long sum = 0;
-        for (int i = 0; i < 40; i++) {
-            for (int j = i + 1; j < 40; j++) {
-                if ((x.leaves(0, knot) >> i & 1) != 0 && (x.leaves(0, knot) >> j & 1) != 0) {
-                    sum += (long) x.of(i, 2) * x.of(j, 2) * x.square(i, j);
+        for (int i = 0; i < tracks.length; i++) {
+            for (int j = i + 1; j < tracks.length; j++) {
+                if ((leaves >> i & 1) != 0 && (leaves >> j & 1) != 0) {
+                    long across = tracks[i][0] - tracks[j][0];
+                    long round = Math.abs(tracks[i][1] - tracks[j][1]);
+                    sum += (long) tracks[i][2] * tracks[j][2] * (across * across + round * round);
                 }
             }
         }
-        long weight = x.knot(0, knot, 2);
         return (double) sum / (double) (weight * weight);
     }
 

@@ -19,37 +19,6 @@ final class Check {
         due(promise, call, got, Double.doubleToLongBits(want));
     }
 
-    /** All that can be asked of an object without arguments, to see that a refused call left it as it was. */
-    static String look(JetTrees x) {
-        StringBuilder seen = new StringBuilder();
-        for (int i = 0; i < 8; i++) {
-            seen.append(x.is(i)).append(' ');
-        }
-        for (int t = 0; t < 40; t++) {
-            seen.append(x.of(t, 0)).append(',').append(x.of(t, 1)).append(',').append(x.of(t, 2)).append(' ');
-        }
-        for (int tree = 0; tree < 4; tree++) {
-            for (int k = 0; k < 79; k++) {
-                for (int what = 0; what < 8; what++) {
-                    seen.append(x.knot(tree, k, what)).append(',');
-                }
-            }
-            for (int s = 0; s < 40; s++) {
-                seen.append(x.up(tree, s)).append('/').append(x.down(tree, s)).append(' ');
-                seen.append(x.origin(tree, s)).append(' ');
-            }
-            for (int what = 4; what < 7; what++) {
-                seen.append(x.tree(tree, what)).append(' ');
-            }
-        }
-        for (int as = 0; as < 4; as++) {
-            for (int i = -1; i < x.kept(as, -1); i++) {
-                seen.append(x.kept(as, i)).append(' ');
-            }
-        }
-        return seen.append(x.steps()).toString();
-    }
-
     static void end(String name) {
         System.out.println(name + ": " + asked + " answers, " + wrong + " not as due");
         System.exit(wrong == 0 ? 0 : 1);

@@ -482,6 +482,24 @@ public final class EdgesOfLyingTest {
         row("F 0", i -> x.patch(1, 0, i), 2, 1);
     }
 
+    /** Promise 56, II: "a set without TRACKS is gone": no PATCH is without TRACKS, and no TRACK is in two of them. */
+    static void p56_noneWithoutTracks() {
+        for (int run = 0; run < 40; run++) {
+            JetTrees x = new JetTrees();
+            x.tell(700 * run);
+            x.drawn(0, 0, 5 + run, 20);
+            for (int f = 0; f <= 1000; f += 500) {
+                long seen = 0;
+                long patches = x.patch(8 + run / 2, f, -1);
+                for (int i = 0; i < patches; i++) {
+                    long patch = x.patch(8 + run / 2, f, i);
+                    Edge.due("PATCH " + i + " has TRACKS of its own", patch != 0 && (patch & seen) == 0, true);
+                    seen |= patch;
+                }
+            }
+        }
+    }
+
     // ---- Promise 57: pedestal
 
     /** Promise 57, II: "TILES of a size s (1 .. 100)". */

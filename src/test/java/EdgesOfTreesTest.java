@@ -512,6 +512,14 @@ public final class EdgesOfTreesTest {
         Edge.due("alone", Edge.treeOf(1, 200, 0, Edge.t(0, 0, 10)).up(0, 0), 40000 * 100);
     }
 
+    /** Promise 24, Terms: "0: SQUARE; -1:" and "0: RADIUS times itself;": by POWER 0 no WEIGHT counts, the greatest neither. */
+    static void p24_power0() {
+        JetTrees x = Edge.treeOf(0, 200, 0, Edge.t(0, 0, 9999), Edge.t(3, 4, 1));
+        Edge.due("both", x.up(0, 0), 25);
+        Edge.due("alone", x.up(0, 1), 40000);
+        Edge.due("alone, RADIUS 1", Edge.treeOf(0, 1, 0, Edge.t(0, 0, 9999)).up(0, 0), 1);
+    }
+
     /** Promise 24, Terms: "SQUARE by the greater WEIGHT times itself (a fraction)". */
     static void p24_powerMinus1() {
         JetTrees x = Edge.treeOf(-1, 200, 0, Edge.t(0, 0, 10), Edge.t(1, 1, 9));

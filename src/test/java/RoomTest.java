@@ -50,7 +50,13 @@ public final class RoomTest {
                 case 11: x.keep(0, 0, 40); break;
                 case 12: x.tau(0, jet, 9); break;
                 case 13: x.move(0, 0, i % 360); break;
-                case 14: x.drop(0); x.track(0, 0, 1); break;
+                case 14:
+                    if (i % 2 == 0) {
+                        x.drop(0);
+                    } else {
+                        x.track(0, 0, 1);
+                    }
+                    break;
                 case 15: x.image(); break;
                 case 16: x.back(); break;
                 case 17: x.tell(i); break;

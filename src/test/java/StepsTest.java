@@ -193,13 +193,13 @@ public final class StepsTest {
             x.hand(0);
             x.keep(1, 0, 2);
             x.tell(4711);
-            String before = Check.look(x);
+            String before = Edge.look(x);
             int steps = x.steps();
             take(x, kind);
             Check.due(15, "a STEP of kind " + kind, x.steps(), steps + 1);
-            Check.due(15, "it changed something, kind " + kind, Check.look(x).equals(before), false);
+            Check.due(15, "it changed something, kind " + kind, Edge.look(x).equals(before), false);
             Check.due(15, "undo() of kind " + kind, x.undo(), steps);
-            Check.due(15, "all is as ahead of it, kind " + kind, Check.look(x).equals(before), true);
+            Check.due(15, "all is as ahead of it, kind " + kind, Edge.look(x).equals(before), true);
         }
     }
 
@@ -240,7 +240,7 @@ public final class StepsTest {
         x.keep(2, 0, 3);
         x.tell(5);
         Check.due(61, "image()", x.image(), 5);
-        String before = Check.look(x);
+        String before = Edge.look(x);
         int steps = x.steps();
         Check.due(61, "it is no STEP", steps, 9);
         for (int round = 0; round < 2; round++) {
@@ -250,7 +250,7 @@ public final class StepsTest {
             x.tell(77);
             x.hand(2);
             Check.due(62, "back()", x.back(), 5);
-            Check.due(62, "all is so again", Check.look(x).equals(before), true);
+            Check.due(62, "all is so again", Edge.look(x).equals(before), true);
             Check.due(62, "so are the STEPS", x.steps(), steps);
         }
         x.undo();
@@ -258,7 +258,7 @@ public final class StepsTest {
         x.undo();
         Check.due(62, "undo() as it was there: no TREE", x.is(5), 0);
         Check.due(62, "back() again", x.back(), 5);
-        Check.due(62, "it stays", Check.look(x).equals(before), true);
+        Check.due(62, "it stays", Edge.look(x).equals(before), true);
         x.drop(0);
         Check.due(61, "another IMAGE", x.image(), 4);
         x.drop(0);
